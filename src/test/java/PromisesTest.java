@@ -242,6 +242,26 @@ public final class PromisesTest {
         due("ten clauses", open(x, times("up 1;", 9) + "up 2"), 0);
         due("of several the last", x.told(0), 2);
         due("100 bytes that end too early", open(x, "more 1 " + times("p=1|", 23) + "!"), -10 - 100);
+        due("100 bytes that end behind |", open(x, "more 11 " + times("p=1|", 23)), -10 - 100);
+        due("100 bytes that end behind &", open(x, "more 11 " + times("p=1&", 23)), -10 - 100);
+        due("100 bytes", open(x, "more 11 " + times("p=0|", 22) + "p=01"), 1);
+        x.buyer(0, 0, 4);
+        due("value by 100 bytes", x.of(0, 6), 15);
+
+        x = new PennyMore();
+        x.buyer(0, 0, 4);
+        due("a fault at the end", open(x, "more 5 b=0;cost 5 b=0;fee 5;up 5;down 5;away 5;!"), -10 - 47);
+        due("then a shop of one clause", open(x, "more 2 b=0"), 0);
+        due("value", x.of(0, 6), 6);
+        due("cost", x.of(0, 7), 0);
+        due("up", x.told(0), 1);
+        due("down", x.told(1), 1);
+        due("away", x.told(2), 1);
+        due("fee", x.told(3), 0);
+        // Eight of ten bytes and a ; each, and two of five.
+        due("ten clauses", open(x, times("more 7 b=0;", 8) + "fee 1;fee 2"), 1);
+        due("value by ten clauses", x.of(0, 6), 60);
+        due("fee by ten clauses", x.told(3), 2);
     }
 
     private static void tests() {
@@ -414,6 +434,16 @@ public final class PromisesTest {
         due("would(2)", x.would(2), -1);
         due("would(-1)", x.would(-1), -1);
 
+        for (int friend = 0; friend < 4; friend++) {
+            x = new PennyMore();
+            x.buyer(0, 0, 9);
+            x.buyer(0, 0, 9);
+            x.buyer(3, 0, 9);
+            x.buyer(0, 0, 9);
+            x.friend(2, friend);
+            due("FALLING, for one ahead or behind", x.would(2), friend == 2 ? 1 : 2);
+        }
+
         x = with("more 9 r=3;more 20 r=2", 9, 5);
         x.buyer(0, 0, 0);
         x.buyer(0, 0, 0);
@@ -504,6 +534,21 @@ public final class PromisesTest {
         due("run(11)", x.run(11), 7);
         due("run(12)", x.run(12), 6);
         due("run(13)", x.run(13), 11);
+        for (int b = 0; b < 4; b++) {
+            x.set(0, 999);
+            due("at another price, run(" + b + ")", x.run(b), new int[] {-1, 1, -1, 5}[b]);
+            x.set(0, 4);
+            due("as before, run(" + b + ")", x.run(b), gained[b]);
+        }
+        int[] ofRun = {13, 7, 6, 11};
+        // At 999: 0 NO (-1), 1 YES at 3 (1), 2 at 5: 6+1-5 < 3: NO (-1), 3 YES at 3 (5).
+        int[] ofDear = {1 + 3 + 1 + 3, 5, 4, 10};
+        for (int what = 10; what <= 13; what++) {
+            x.set(0, 999);
+            due("at another price, run(" + what + ")", x.run(what), ofDear[what - 10]);
+            x.set(0, 4);
+            due("as before, run(" + what + ")", x.run(what), ofRun[what - 10]);
+        }
         due("run(4)", x.run(4), -100001);
         due("run(-1)", x.run(-1), -100001);
         due("run(9)", x.run(9), -100001);
@@ -515,6 +560,22 @@ public final class PromisesTest {
         due("loaves since now", x.run(13), 10);
         due("all turns", x.run(12), 6);
         due("gained before counts", x.run(0), 5);
+        PennyMore six = new PennyMore();
+        for (int b = 0; b < 6; b++) {
+            six.buyer(6, 0, 9);
+            six.row(b, 1, 3);
+        }
+        six.row(5, 2, 2);
+        six.row(5, 0, 2);
+        // Each goes away once at 1; then YES at 1, 2, 3, 4 and 5 (4 is 1 modulo 3, but nobody goes away twice).
+        due("six, all goes to the end", six.run(12), 11);
+        due("six, who has a loaf", six.run(13), 31);
+        six.set(1, 9);
+        six.row(5, 0, 2);
+        due("six, the last is told NO at 6", six.run(13), 31);
+        six.row(5, 0, 1);
+        due("six, the last is told YES at 6", six.run(13), 63);
+        due("six, the last has gained", six.run(5), 3);
         x.set(1, 1);
         due("till the loaves are gone", x.run(13), 8);
         due("turns then", x.run(12), 4);
@@ -558,6 +619,23 @@ public final class PromisesTest {
         open(x, "down 1;up 50");
         x.buyer(0, 0, 50);
         due("for all", x.first(1), 1);
+
+        // YES: 10 for both together, then a no at 95; NO: the other's 40; AWAY: 40, then a no.
+        x = with("up 90;down 1", 5, 5);
+        x.buyer(0, 0, 10);
+        x.buyer(0, 0, 40);
+        due("for itself", x.first(0), 1);
+        due("for all", x.first(1), 2);
+        x = with("up 90;down 1;away 0", 80, 1);
+        x.buyer(0, 0, 85);
+        x.buyer(0, 0, 99);
+        due("for itself, the only loaf", x.first(0), 1);
+        due("for all the other has more of it", x.first(1), 2);
+        x = with("fee 3;away 0;cost 1 b=0", 9, 1);
+        x.buyer(0, 0, 9);
+        x.buyer(0, 0, 9);
+        // YES: 9 for all. NO: 3 to the till, -4 for it, and 9 by the other: 8.
+        due("for all no is worse by the cost", x.first(1), 1);
     }
 
     // ---- rows
@@ -601,6 +679,18 @@ public final class PromisesTest {
             due("order(0, " + k + ") of five", x.order(0, k), best[k]);
         }
         due("one place fewer", x.order(0, 5), -100001);
+        due("all gained, of six of whom five stand", x.order(1, -1), 2 + 1);
+        x = with("away 0;cost 3 r>0;fee 2", 99, 5);
+        x.buyer(0, 0, 0);
+        x.buyer(0, 0, 9);
+        // 0 then 1: -5 and 8; 1 then 0: -5 and -1.
+        due("gained", x.order(1, -1), 3);
+        x = with("cost 3 r>0;fee 2;down 99", 99, 5);
+        x.buyer(0, 0, 0);
+        x.buyer(0, 0, 9);
+        due("only losses", x.order(1, -1), -10);
+        due("only losses, the first row", x.order(1, 0), 0);
+        due("only losses", x.order(0, -1), 4);
     }
 
     private static void promise17() {
@@ -645,6 +735,22 @@ public final class PromisesTest {
         // 0 YES at 5 (0), 1 YES at 6 (3). 0-1: 1 at 5 (4), 0 NO at 6 (0). 1-2: 1 at 1 (8).
         due("both pairs", x.letBy(0), 2);
         due("from the head", x.letBy(1), 0);
+        // 0 NO, or YES at 1 for 1 once 1 has said NO: one more, the other the same.
+        x = with("", 5, 5);
+        x.buyer(0, 0, 2);
+        x.buyer(0, 0, 0);
+        due("one more by 1", x.letBy(0), 1);
+        x = with("", 4, 5);
+        x.buyer(0, 0, 0);
+        x.buyer(0, 0, 5);
+        x.buyer(0, 0, 0);
+        // 0 NO, 1 YES at 1 (4), 2 NO. 0-1: 1 at 4 (1): less. 1-2: 1 the same.
+        due("none has more", x.letBy(0), 0);
+        x = with("", 4, 5);
+        x.buyer(0, 0, 4);
+        x.buyer(0, 0, 6);
+        // 0 YES at 4 (0), 1 YES at 5 (1); or 1 YES at 4 (2), 0 NO (0).
+        due("the one behind has one more by 1", x.letBy(0), 1);
         x = with("up 1;cost 2 b=0", 5, 5);
         x.buyer(0, 0, 4);
         x.buyer(0, 0, 9);
@@ -757,6 +863,18 @@ public final class PromisesTest {
         x.buyer(0, 0, 0);
         x.buyer(0, 0, 30);
         due("a no is good for the next", x.aunt(0), 29 - 21);
+        x = with("more 6 r=2", 1, 5);
+        x.buyer(0, 0, 5);
+        x.buyer(0, 0, 0);
+        due("good for the one ahead", x.aunt(1), 10 - 4);
+        x = with("more 6 r=6", 1, 9);
+        for (int b = 0; b < 6; b++) {
+            x.buyer(0, 0, 9);
+        }
+        // With all: 14, 7, 6, 5, 4 and 3; without the last: 8, 7, 6, 5, 4.
+        due("of six", x.aunt(5), 6);
+        // Without the first: 8, 7, 6, 5, 4.
+        due("of six, the head", x.aunt(0), 25 - 30);
     }
 
     // ---- slips, films
@@ -1142,6 +1260,7 @@ public final class PromisesTest {
         due("a row of no items", x.item(0, 0, 1), -13);
         due("nothing", x.tape(0, -1, -99), 1);
         due("nothing is there", x.item(0, 0, 1), -11);
+        due("nothing is there to read", x.read(0, 0), NO);
         due("the others hold nothing", x.item(5, 0, 1), -11);
     }
 
