@@ -226,7 +226,8 @@ public final class AskedEdgesTest {
             "count 1 = 1, of 0 0 = -10001, go = 0");
         String twelve = Script.times("film 1", 12);
         edge("THE IMAGE of six, and a full FILM", Script.times("buyer 6 9 99", 6), "row 5 2 3, friend 5 0, slips 10, set 1 9",
-            twelve, "image = 6, film -1, " + Script.times("go", 6) + ", undo = 6, told 8 = 6, of 5 5 = 5, of 5 8 = 3",
+            twelve, "image = 6, row 5 2 1, row 5 0 2, friend 5 1, film -1, " + Script.times("go", 6) + ", undo = 6, told 8 = 6",
+            "of 5 5 = 5, of 5 8 = 3",
             "of 5 3 = 0, told 5 = 9, told 7 = 0, count 2 = 12, film 1 = FULL, off = 6, slips 0 = 10, gained 0 = 0",
             "buyer 0 0 0 = FULL");
         edge("THE IMAGE: the FILM's acts", "buyer 0 0 9, buyer 1 9 0, film 1, film 2, off = -5, image = 2, film -1, film 3, film 3",

@@ -127,23 +127,28 @@ public final class BuyersEdgesTest {
             "buyer 0 0 1, open more 1 b=00 = 0, of 0 6 = 2, open more 1 b<99 = 1, of 0 6 = 2");
     }
 
-    /** Each letter, each relation, each number of two digits, for a BUYER of whom each letter measures something else. */
+    /** Each letter, each relation, each number of two digits, for two BUYERS of whom the letters measure something else. */
     private static void allTests() {
         String letters = "bkplraf";
-        int[] measures = {3, 2, 57, 8, 5, 2, 1};
+        int[] threes = {3, 2, 57, 8, 5, 2, 1};
+        int[] noughts = {0, 0, 57, 8, 5, 0, 0};
         for (int letter = 0; letter < letters.length(); letter++) {
             for (int number = 0; number < 100; number++) {
-                int is = measures[letter];
                 Script s = new Script("a TEST: each letter, each relation, each number",
                     Script.times("buyer 0 0 1", 3) + ", buyer 2 0 1, buyer 0 0 1, friend 3 1, open away 2;down 50 = 0, set 0 50",
                     "go = 2, go = 2, go = 2, go = 3, go = 2, go = 3, back 0 = 1, back 1 = 2, back 2 = 3, back 4 = 4, set 0 57",
                     "set 1 8, told 8 = 5, of 3 4 = 2");
-                String test = letters.charAt(letter) + "";
-                s.open("more 9 " + test + "<" + number, 1).go("of 3 6 = " + (is < number ? 10 : 1));
-                s.open("more 9 " + test + "=" + number, 2).go("of 3 6 = " + (is == number ? 10 : 1));
-                s.open("more 9 " + test + ">" + number, 3).go("of 3 6 = " + (is > number ? 10 : 1));
+                for (int relation = 0; relation < 3; relation++) {
+                    s.open("more 9 " + letters.charAt(letter) + "<=>".charAt(relation) + number, 1 + relation);
+                    s.go("of 3 6 = " + (holds(threes[letter], relation, number) ? 10 : 1));
+                    s.go("of 0 6 = " + (holds(noughts[letter], relation, number) ? 10 : 1));
+                }
             }
         }
+    }
+
+    private static boolean holds(int measure, int relation, int number) {
+        return relation == 0 ? measure < number : relation == 1 ? measure == number : measure > number;
     }
 
     private static void nesting() {
