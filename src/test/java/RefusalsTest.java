@@ -44,6 +44,9 @@ public final class RefusalsTest {
         edge("6: each TOLD one has a ROW of its own", Script.times("buyer 6 0 0", 5) + ", row 0 0 1, row 1 0 2, row 4 2 3",
             "of 0 8 = 100, of 1 8 = 200, of 2 8 = 0, of 3 8 = 0, of 4 8 = 3, buyer 6 0 0 = 5, of 0 8 = 100, of 1 8 = 200",
             "of 2 8 = 0, of 3 8 = 0, of 4 8 = 3, of 5 8 = 0, row 5 2 3 = 0, of 4 8 = 3, of 5 8 = 3");
+        edge("6: a ROW stays as others come", "buyer 6 0 0, row 0 0 1, row 0 1 2, row 0 2 3, buyer 6 0 0, row 1 0 1, row 1 1 2",
+            "row 1 2 3, buyer 6 0 0, row 2 0 1, row 2 1 2, row 2 2 3, " + Script.times("buyer 6 0 0", 3),
+            "of 0 8 = 123, of 1 8 = 123, of 2 8 = 123, of 3 8 = 0, of 5 8 = 0");
         edge("7: its place; NONE; STATE: it is in it", "back 0 = NONE, buyer 0 0 9, back 0 = STATE, back 1 = NONE, back -1 = NONE",
             "back MIN = NONE, back MAX = NONE, go = 1, back 0 = 0, back 0 = STATE, told 8 = 1");
         edge("7: the sixth place", SIX + ", go = 1, back 0 = 5, back 5 = STATE, told 8 = 6, told 9 = 1");
