@@ -1,11 +1,13 @@
 import java.io.IOException;
+import java.lang.reflect.Field;
+import java.lang.reflect.Modifier;
 import java.nio.charset.StandardCharsets;
 import java.nio.file.Files;
 import java.nio.file.Path;
 import java.util.regex.Matcher;
 import java.util.regex.Pattern;
 
-/** The rules of ../shared/LANGUAGE.md that can be seen in the program's text alone. */
+/** The rules of ../shared/LANGUAGE.md that can be seen in the program's text and in its compiled classes. */
 public final class LanguageTest {
     private static final Path PROGRAM = Path.of("src/main/java/PennyMore.java");
     private static final Pattern OWN_TEXT = Pattern.compile("(?s)/\\*.*?\\*/|//[^\n]*|\"(\\\\.|[^\"\\\\])*\"|'(\\\\.|[^'\\\\])'");
@@ -78,6 +80,42 @@ public final class LanguageTest {
         }
     }
 
+    private static void broken(int number, String what) {
+        wrong++;
+        System.out.println("rule " + number + ": " + what);
+    }
+
+    /** Fields of a class: what is static is a constant of a number, a sign or a text, or a row of numbers. */
+    private static void fieldsOf(Class<?> of) {
+        int fields = 0;
+        for (Field f : of.getDeclaredFields()) {
+            Class<?> type = f.getType();
+            Class<?> item = type.isArray() ? type.getComponentType() : type;
+            if (!Modifier.isStatic(f.getModifiers())) {
+                fields++;
+            } else if (!Modifier.isFinal(f.getModifiers()) || !item.isPrimitive() && type != String.class) {
+                broken(5, of.getName() + "." + f.getName() + " is no constant");
+            }
+        }
+        if (fields > 20) {
+            broken(11, of.getName() + " has " + fields + " fields");
+        }
+    }
+
+    private static void classes() {
+        fieldsOf(PennyMore.class);
+        for (Class<?> inside : PennyMore.class.getDeclaredClasses()) {
+            int is = inside.getModifiers();
+            if (!Modifier.isStatic(is)) {
+                broken(2, inside.getName() + " is not static");
+            }
+            if (Modifier.isPublic(is) || Modifier.isProtected(is)) {
+                broken(1, inside.getName() + " is shown");
+            }
+            fieldsOf(inside);
+        }
+    }
+
     public static void main(String[] args) throws IOException {
         String program = Files.readString(PROGRAM, StandardCharsets.ISO_8859_1);
         String code = codeOf(program);
@@ -96,6 +134,7 @@ public final class LanguageTest {
             fails(11, code, 0, "more than twelve classes");
         }
         methods(code);
+        classes();
         System.out.println(wrong == 0 ? "the rules are kept" : wrong + " breaks of the rules");
         if (wrong != 0) {
             System.exit(1);
